@@ -732,7 +732,8 @@ public final class RibafreeHouse {
 
     private void shareProfit(int venture, int profit) {
         int left = profit;
-        for (int party = 0; party <= HOUSE; party++) {
+        // What is left holds the part of the HOUSE too.
+        for (int party = 0; party < HOUSE; party++) {
             int part = portion(profit, ventures.shareOf(venture, party), 100);
             creditProfit(venture, party, part);
             left -= part;
@@ -946,7 +947,8 @@ public final class RibafreeHouse {
             return sale >= 0 && sale < count;
         }
 
-        int add(int what, int who, int cost, int percent, int inParts, int pillarsMissing, int day) {
+        int add(int what, int who, int cost, int percent, int inParts, int pillarsMissing,
+                int day) {
             thing[count] = what;
             buyer[count] = who;
             markup[count] = percent;
@@ -966,7 +968,7 @@ public final class RibafreeHouse {
         }
 
         boolean isOpen(int sale) {
-            return !isVoid(sale) && !isDone(sale);
+            return !isVoid(sale) && paid[sale] < parts[sale];
         }
 
         int partsLeft(int sale) {

@@ -5,6 +5,7 @@ public final class BoardTest {
         votes();
         wrongVotes();
         daysThatAreOver();
+        pastOfEachQuestion();
         wrongDays();
         people();
         things();
@@ -76,6 +77,20 @@ public final class BoardTest {
         Check.is("allowed(1, 3999)", x.allowed(1, 3999), false);
         Check.is("allowed(4, 3999)", x.allowed(4, 3999), true);
         Check.is("allowed(4, 4000)", x.allowed(4, 4000), true);
+    }
+
+    private static void pastOfEachQuestion() {
+        for (int question = 0; question < 5; question++) {
+            RibafreeHouse x = new RibafreeHouse();
+            Check.forbid(x, question);
+            x.pass(2);
+            x.hold(0, question, true);
+            x.pass(1);
+            for (int other = 0; other < 5; other++) {
+                Check.is("allowed of day 1", x.allowed(other, 1), other != question);
+                Check.is("allowed of day 2", x.allowed(other, 2), true);
+            }
+        }
     }
 
     private static void wrongDays() {

@@ -28,6 +28,10 @@ public final class FirmsTest {
         Check.is("liquid", isClean(100, 0, 70, 0), false);
         Check.is("doubt", isClean(100, 0, 0, 5), true);
         Check.is("doubt", isClean(100, 0, 0, 6), false);
+        Check.is("as much as can be", isClean(999, 329, 699, 49), true);
+        Check.is("debt", isClean(999, 330, 0, 0), false);
+        Check.is("liquid", isClean(999, 0, 700, 0), false);
+        Check.is("doubt", isClean(999, 0, 0, 50), false);
         Check.is("all of it", isClean(1, 0, 0, 0), true);
         Check.is("all of it", isClean(1, 999, 999, 999), false);
     }
@@ -108,7 +112,8 @@ public final class FirmsTest {
         Check.is("of nothing", x.dividend(0, 0), 0);
         Check.is("without doubt", x.dividend(1, 999), 0);
         Check.is("rounded up", x.dividend(2, 299), 1);
-        Check.is("CHARITY", x.house(2), 13);
+        Check.is("rounded up", x.dividend(2, 1), 1);
+        Check.is("CHARITY", x.house(2), 14);
         Check.is("CASH of the house", x.house(1), 9930 + 95 + 95 + 0 + 999 + 298);
     }
 
@@ -127,6 +132,9 @@ public final class FirmsTest {
     }
 
     private static void alms() {
+        RibafreeHouse first = Check.withPeople(80 * 40);
+        first.pass(354);
+        Check.is("CASH", first.ofPerson(0, 0), 79 * 40 - 40);
         RibafreeHouse x = Check.withPeople(84, 85, 119, 9999);
         x.deposit(3, 4999);
         x.pass(353);

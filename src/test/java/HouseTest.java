@@ -5,6 +5,8 @@ public final class HouseTest {
         wrongPerson();
         house();
         digest();
+        digestOfFirms();
+        fullHouse();
         Check.end();
     }
 
@@ -90,6 +92,53 @@ public final class HouseTest {
         RibafreeHouse fresh = new RibafreeHouse();
         Check.is("digest of a new one", fresh.digest(), digestByQuestions(fresh));
         Check.is("asking twice", x.digest(), x.digest());
+    }
+
+    private static void digestOfFirms() {
+        RibafreeHouse x = new RibafreeHouse();
+        x.firm(1, 0, 0, 0, 99, 10);
+        x.firm(1, 0, 0, 0, 1, 5);
+        x.firm(1, 0, 0, 0, 2, 7);
+        Check.is("best of 99", x.best(99, false), 12);
+        Check.is("best of 100", x.best(100, false), 15);
+        Check.is("best of 101", x.best(101, false), 17);
+        Check.is("digest", x.digest(), digestByQuestions(x));
+    }
+
+    /** As many of all as there can be. */
+    private static void fullHouse() {
+        RibafreeHouse x = Check.withPeople(8999, 8999, 8999, 8999, 8999, 8999, 8999, 9999);
+        for (int thing = 0; thing < 16; thing++) {
+            x.thing(10, thing % 8);
+            x.buy(thing);
+            x.take(thing);
+        }
+        for (int sale = 0; sale < 12; sale++) {
+            x.sell(sale < 8 ? sale : 0, sale % 7 + 1, 50, 12);
+        }
+        for (int lease = 0; lease < 8; lease++) {
+            x.lease(lease + 8, lease % 3, 99, 99);
+        }
+        for (int firm = 0; firm < 10; firm++) {
+            x.firm(999, 0, 0, 0, 10 + firm, 9);
+        }
+        for (int venture = 0; venture < 6; venture++) {
+            x.venture();
+            for (int person = -1; person < 8; person++) {
+                x.join(venture, person, 100 + venture, 11);
+            }
+            Check.is("result", x.result(venture, -90 - venture, -2), 810 + 8 * venture);
+        }
+        x.deposit(7, 9000);
+        x.pass(354);
+        Check.is("eight are too dear", x.best(100, true), 127);
+        // RENTS are 0. Seven have 8999 + 20 - 615 and give 210 of 8404, the last one 10 of 404.
+        Check.is("CHARITY", x.house(2), 7 * 210 + 10);
+        Check.is("CASH of all", x.house(13), 7 * 8194 + 394);
+        Check.is("LEASES", x.house(9), 8);
+        Check.is("RENTS", x.ofLease(7, 3), 11);
+        Check.is("digest", x.digest(), digestByQuestions(x));
+        Check.is("isSound()", x.isSound(), true);
     }
 
     /** The digest as the document tells it, out of the other answers alone. */

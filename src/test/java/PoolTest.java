@@ -70,6 +70,11 @@ public final class PoolTest {
         Check.is("WEIGHTS begin anew", x.ofPerson(0, 3) + x.ofPerson(1, 3), 0);
         Check.is("without weight", x.share(50, 0, 0), 0);
         Check.is("CHARITY", x.house(2), 51);
+        RibafreeHouse least = Check.withPeople(1, 1);
+        least.deposit(1, 1);
+        least.pass(1);
+        Check.is("a weight of 1", least.share(100, 70, 0), 70);
+        Check.is("DEPOSIT", least.ofPerson(1, 2), 71);
     }
 
     private static void reserve() {

@@ -190,10 +190,15 @@ public final class SalesTest {
         Check.is("no other rebate", x.ofSale(0, 9), 16);
         Check.is("no fee", x.ofSale(0, 8), 0);
         x.hold(0, 1, true);
-        x.thing(10, -1);
+        x.thing(999, -1);
         x.buy(1);
-        x.sell(1, 0, 0, 1);
-        Check.is("no markup, no rebate", x.pay(1), 10);
+        x.sell(1, 0, 99, 1);
+        // 99 * 1988 / 199 is 989, half of it 494.
+        Check.is("a great one", x.pay(1), 1494);
+        x.thing(10, -1);
+        x.buy(2);
+        x.sell(2, 0, 0, 1);
+        Check.is("no markup, no rebate", x.pay(2), 10);
     }
 
     private static void wrongPaying() {

@@ -5,6 +5,7 @@ public final class VenturesTest {
         joining();
         wrongJoining();
         profits();
+        greatProfit();
         losses();
         negligence();
         wrongResults();
@@ -103,6 +104,18 @@ public final class VenturesTest {
         Check.is("profit of 0", x.ofVenture(0, 0, 2), 16 + 3 + 33);
     }
 
+    private static void greatProfit() {
+        RibafreeHouse x = Check.withPeople(100, 100);
+        x.venture();
+        x.join(0, 0, 1, 33);
+        x.join(0, 1, 1, 66);
+        x.join(0, -1, 1, 1);
+        x.result(0, 999, -2);
+        Check.is("profit of 0", x.ofVenture(0, 0, 2), 329);
+        Check.is("profit of 1", x.ofVenture(0, 1, 2), 659);
+        Check.is("the house", x.ofVenture(0, -1, 2), 11);
+    }
+
     private static void losses() {
         RibafreeHouse x = Check.withPeople(999, 999, 999);
         x.venture();
@@ -163,7 +176,7 @@ public final class VenturesTest {
     }
 
     private static void buyingOut() {
-        RibafreeHouse x = Check.withPeople(100, 100);
+        RibafreeHouse x = Check.withPeople(100, 100, 9999);
         x.venture();
         x.join(0, 0, 60, 10);
         x.join(0, 1, 40, 20);
@@ -178,6 +191,14 @@ public final class VenturesTest {
         Check.is("CASH of the house", x.house(1), 10000 - 105);
         Check.is("buyOut", x.buyOut(0, -1, 0, 1), 104);
         Check.is("CASH of the house", x.house(1), 10000 - 104);
+        x.venture();
+        x.join(1, -1, 999, 0);
+        x.join(1, 0, 1, 0);
+        x.result(0, 999, -2);
+        x.join(0, 2, 1, 0);
+        x.join(1, 2, 1, 0);
+        Check.is("buyOut of all", x.buyOut(1, -1, 2, 999), 0);
+        Check.is("CAPITAL", x.ofVenture(1, 2, 0), 1000);
         Check.fails("join of a partner without capital", Check.STATE, x, () -> x.join(0, 1, 1, 0));
     }
 
