@@ -44,6 +44,15 @@ final class Check {
         }
     }
 
+    /** The call is let: it throws nothing. */
+    static void lets(String call, Runnable act) {
+        try {
+            act.run();
+        } catch (RuntimeException thrown) {
+            tell(call + " threw " + thrown.getClass() + ", nothing is due");
+        }
+    }
+
     static void tell(String fault) {
         wrong++;
         StackTraceElement[] calls = new Throwable().getStackTrace();
@@ -68,6 +77,33 @@ final class Check {
         RibafreeHouse house = new RibafreeHouse();
         for (int each : cash) {
             house.person(each);
+        }
+        return house;
+    }
+
+    /** Three of PEOPLE with much CASH, and things of that WORTH, which the MARKET owns. */
+    static RibafreeHouse withThings(int... worth) {
+        RibafreeHouse house = withPeople(5000, 5000, 5000);
+        for (int each : worth) {
+            house.thing(each, -1);
+        }
+        return house;
+    }
+
+    /** The same, but the HOUSE bought them all; it does not hold them yet. */
+    static RibafreeHouse withBought(int... worth) {
+        RibafreeHouse house = withThings(worth);
+        for (int thing = 0; thing < worth.length; thing++) {
+            house.buy(thing);
+        }
+        return house;
+    }
+
+    /** The same, but the HOUSE holds them all. */
+    static RibafreeHouse withHeld(int... worth) {
+        RibafreeHouse house = withBought(worth);
+        for (int thing = 0; thing < worth.length; thing++) {
+            house.take(thing);
         }
         return house;
     }

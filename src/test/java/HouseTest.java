@@ -86,27 +86,36 @@ public final class HouseTest {
     }
 
     private static void digest() {
-        RibafreeHouse x = busy();
-        Check.forbid(x, 2);
-        Check.is("digest", x.digest(), digestByQuestions(x));
-        RibafreeHouse fresh = new RibafreeHouse();
-        Check.is("digest of a new one", fresh.digest(), digestByQuestions(fresh));
+        Made made = () -> {
+            RibafreeHouse x = busy();
+            Check.forbid(x, 2);
+            return x;
+        };
+        RibafreeHouse x = made.house();
+        Check.is("digest", x.digest(), digestByQuestions(made));
         Check.is("asking twice", x.digest(), x.digest());
+        long fresh = new RibafreeHouse().digest();
+        Check.is("digest of a new one", fresh, digestByQuestions(RibafreeHouse::new));
     }
 
-    private static void digestOfFirms() {
+    private static RibafreeHouse threeFirms() {
         RibafreeHouse x = new RibafreeHouse();
         x.firm(1, 0, 0, 0, 99, 10);
         x.firm(1, 0, 0, 0, 1, 5);
         x.firm(1, 0, 0, 0, 2, 7);
+        return x;
+    }
+
+    private static void digestOfFirms() {
+        RibafreeHouse x = threeFirms();
         Check.is("best of 99", x.best(99, false), 12);
         Check.is("best of 100", x.best(100, false), 15);
         Check.is("best of 101", x.best(101, false), 17);
-        Check.is("digest", x.digest(), digestByQuestions(x));
+        Check.is("digest", x.digest(), digestByQuestions(HouseTest::threeFirms));
     }
 
     /** As many of all as there can be. */
-    private static void fullHouse() {
+    private static RibafreeHouse full() {
         RibafreeHouse x = Check.withPeople(8999, 8999, 8999, 8999, 8999, 8999, 8999, 9999);
         for (int thing = 0; thing < 16; thing++) {
             x.thing(10, thing % 8);
@@ -131,34 +140,48 @@ public final class HouseTest {
         }
         x.deposit(7, 9000);
         x.pass(354);
+        return x;
+    }
+
+    private static void fullHouse() {
+        RibafreeHouse x = full();
         Check.is("eight are too dear", x.best(100, true), 127);
         // RENTS are 0. Seven have 8999 + 20 - 615 and give 210 of 8404, the last one 10 of 404.
         Check.is("CHARITY", x.house(2), 7 * 210 + 10);
         Check.is("CASH of all", x.house(13), 7 * 8194 + 394);
         Check.is("LEASES", x.house(9), 8);
         Check.is("RENTS", x.ofLease(7, 3), 11);
-        Check.is("digest", x.digest(), digestByQuestions(x));
+        Check.is("digest", x.digest(), digestByQuestions(HouseTest::full));
         Check.is("isSound()", x.isSound(), true);
     }
 
-    /** The digest as the document tells it, out of the other answers alone. */
-    private static long digestByQuestions(RibafreeHouse x) {
+    private interface Made {
+        RibafreeHouse house();
+    }
+
+    /**
+     * The digest as the document tells it, out of the other answers alone. Each kind of them is
+     * asked of an object of its own, as what an object answers behind 512 calls is free.
+     */
+    private static long digestByQuestions(Made made) {
         long[] d = {7307};
+        RibafreeHouse x = made.house();
         for (int what = 0; what <= 15; what++) {
             mix(d, x.house(what));
         }
-        row(d, 0, 7, (number, what) -> x.ofPerson(number, what));
-        row(d, 1, 6, (number, what) -> x.ofThing(number, what));
-        row(d, 2, 9, (number, what) -> x.ofSale(number, what));
-        row(d, 2, 5, (number, what) -> x.ofLease(number, what));
+        row(d, 0, 7, made.house()::ofPerson);
+        row(d, 1, 6, made.house()::ofThing);
+        row(d, 2, 9, made.house()::ofSale);
+        row(d, 2, 5, made.house()::ofLease);
         for (int venture = 0; venture < x.house(10); venture++) {
             int each = venture;
-            row(d, 0, 2, (number, what) -> x.ofVenture(each, number, what));
+            RibafreeHouse other = made.house();
+            row(d, 0, 2, (number, what) -> other.ofVenture(each, number, what));
             for (int what = 0; what <= 2; what++) {
-                mix(d, x.ofVenture(venture, -1, what));
+                mix(d, other.ofVenture(venture, -1, what));
             }
         }
-        row(d, 0, 2, (number, what) -> x.ofFirm(number, what));
+        row(d, 0, 2, made.house()::ofFirm);
         for (int question = 0; question < 5; question++) {
             mix(d, x.allowed(question, x.house(0)) ? 1 : 0);
         }

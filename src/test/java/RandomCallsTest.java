@@ -1,23 +1,61 @@
 /**
- * Long runs of calls by chance (the same ones each time): a call throws nothing but what the face
- * names and then changes nothing, a question changes nothing, all stays SOUND, and no money comes
- * or goes but by the ways that the document has.
+ * Runs of calls by chance (the same ones each time) on two objects: the first one has all calls,
+ * the second one only those that the first one did not refuse. A call throws nothing but what the
+ * face names, both answer the same (so that a call that throws changes nothing), all stays SOUND,
+ * and no money comes or goes but by the ways that the document has.
  */
 public final class RandomCallsTest {
-    private static final int RUNS = 300;
+    private static final int RUNS = 1000;
+    // With the looks at it between them they stay below 512, behind which all answers are free.
     private static final int CALLS = 400;
+    private static final int FIRST = 60;
+    private static final long REFUSED = Long.MIN_VALUE;
     private static final int[] ODD = {-2, -1, 0, 1, 2, 7, 8, 9, 12, 16, 99, 100, 999, 1000, 9999,
         10000, Integer.MAX_VALUE, Integer.MIN_VALUE};
 
     private long seed;
     private RibafreeHouse x;
-    private long money;
+    private long money = 10000;
+    private final long[] capital = new long[6];
 
     public static void main(String[] args) {
         for (int run = 1; run <= RUNS; run++) {
-            new RandomCallsTest().run(run);
+            run(run);
         }
         Check.end();
+    }
+
+    private RandomCallsTest(long seed) {
+        this.seed = seed;
+        x = new RibafreeHouse();
+    }
+
+    private static void run(int number) {
+        RandomCallsTest all = new RandomCallsTest(number);
+        RandomCallsTest some = new RandomCallsTest(number);
+        for (int call = 0; call < CALLS; call++) {
+            int kind = call < FIRST ? call % 12 : all.below(35);
+            long before = all.seed;
+            long answer = all.act(kind);
+            if (answer != REFUSED) {
+                some.seed = before;
+                String told = "run " + number + ", call " + call + " of kind " + kind;
+                Check.is(told, some.act(kind), answer);
+            }
+            if (call % 80 == 79) {
+                all.look("run " + number + ", behind call " + call);
+            }
+        }
+        Check.is("run " + number + ", digests", some.x.digest(), all.x.digest());
+    }
+
+    private void look(String when) {
+        long sum = x.house(1) + x.house(2) + x.house(3) + x.house(4) + x.house(13);
+        for (long each : capital) {
+            sum += each;
+        }
+        Check.is(when + ", money", sum, money);
+        Check.is(when + ", isSound()", x.isSound(), true);
     }
 
     private int below(int bound) {
@@ -33,193 +71,150 @@ public final class RandomCallsTest {
         return least + below(most - least + 1);
     }
 
-    private void run(int number) {
-        seed = number;
-        x = new RibafreeHouse();
-        money = total();
-        for (int call = 0; call < CALLS; call++) {
-            long before = x.digest();
-            String threw = act(call < 60 ? call % 12 : below(33));
-            if (threw != null) {
-                Check.is("run " + number + ", a call that threw " + threw, x.digest(), before);
-            }
-            Check.is("run " + number + ", money at call " + call, total(), money);
-            Check.is("run " + number + ", isSound()", x.isSound(), true);
-        }
-    }
-
-    private long total() {
-        long sum = x.house(1) + x.house(2) + x.house(3) + x.house(4) + x.house(13);
-        for (int venture = 0; venture < x.house(10); venture++) {
-            sum += capitals(venture);
-        }
-        return sum;
-    }
-
-    private long capitals(int venture) {
-        long sum = x.ofVenture(venture, -1, 0);
-        for (int person = 0; person < 8; person++) {
-            try {
-                sum += x.ofVenture(venture, person, 0);
-            } catch (IndexOutOfBoundsException nobody) {
-                person = 8;
-            }
-        }
-        return sum;
-    }
-
-    private String act(int kind) {
+    private long act(int kind) {
         try {
-            if (kind < 21) {
-                change(kind);
-            } else {
-                long before = x.digest();
-                ask(kind);
-                Check.is("question " + kind, x.digest(), before);
-            }
-            return null;
+            return kind < 12 ? change(kind) : kind < 21 ? changeMore(kind) : ask(kind);
         } catch (RuntimeException thrown) {
             Class<?> type = thrown.getClass();
             boolean isNamed = type == Check.INDEX || type == Check.ARGUMENT || type == Check.STATE;
             Check.is("kind " + kind + " threw " + type, isNamed, true);
-            return type.getSimpleName();
+            return REFUSED;
         }
     }
 
-    private void change(int kind) {
+    private long change(int kind) {
         switch (kind) {
-            case 0: {
-                int cash = from(0, 9999);
-                x.person(cash);
-                money += cash;
-                break;
-            }
+            case 0:
+                return person(from(0, 9999));
             case 1:
-                x.thing(from(1, 999), from(-1, 3));
-                break;
-            case 2: {
-                int thing = from(0, 8);
-                boolean isOfMarket = x.ofThing(thing, 1) == 9;
-                int paid = x.buy(thing);
-                money -= isOfMarket ? paid : 0;
-                break;
-            }
+                return x.thing(from(1, 999), from(-1, 3));
+            case 2:
+                return buy(from(0, 8));
             case 3:
-                x.take(from(0, 8));
-                break;
+                return x.take(from(0, 8));
             case 4:
-                x.venture();
-                break;
+                return x.venture();
             case 5:
-                x.join(from(0, 3), from(-1, 6), from(1, 300), from(0, 25));
-                break;
+                return join(from(0, 3), from(-1, 6), from(1, 300), from(0, 25));
             case 6:
-                x.firm(from(100, 999), from(0, 150), from(0, 200), from(0, 20), from(1, 99),
-                        from(0, 99));
-                break;
+                return x.firm(from(100, 999), from(0, 150), from(0, 200), from(0, 20), from(1, 99),
+                    from(0, 99));
             case 7:
-                x.deposit(from(0, 4), from(-500, 900));
-                break;
+                return x.deposit(from(0, 4), from(-500, 900));
             case 8:
-                x.sell(from(0, 8), from(0, 4), from(0, 99), from(1, 12));
-                break;
+                return x.sell(from(0, 8), from(0, 4), from(0, 99), from(1, 12));
             case 9:
-                x.lease(from(0, 8), from(0, 4), from(0, 40), from(40, 99));
-                break;
+                return x.lease(from(0, 8), from(0, 4), from(0, 40), from(40, 99));
             case 10:
-                x.pass(from(1, 25));
-                break;
-            case 11:
-                x.pay(from(0, 6));
-                break;
+                return x.pass(from(1, 25));
             default:
-                changeMore(kind);
+                return x.pay(from(0, 6));
         }
     }
 
-    private void changeMore(int kind) {
+    private long changeMore(int kind) {
         switch (kind) {
             case 12:
-                x.hold(from(0, 4), from(0, 4), below(3) > 0);
-                break;
+                return x.hold(from(0, 4), from(0, 4), below(3) > 0);
             case 13:
-                x.benchmark(from(0, 99));
-                break;
+                return x.benchmark(from(0, 99));
             case 14:
-                x.end(from(0, 7), below(2) == 0);
-                break;
+                return x.end(from(0, 7), below(2) == 0);
             case 15:
-                result(from(0, 3), from(-999, 999), below(2) == 0 ? -2 : from(-1, 6));
-                break;
+                return result(from(0, 3), from(-999, 999), below(2) == 0 ? -2 : from(-1, 6));
             case 16:
-                x.buyOut(from(0, 3), from(-1, 6), from(-1, 6), from(1, 50));
-                break;
-            case 17: {
-                int profit = from(0, 900);
-                x.share(profit, from(0, 300), from(0, 50));
-                money += profit;
-                break;
-            }
-            case 18: {
-                int before = x.house(1);
-                money += x.invest(from(0, 31)) - before;
-                break;
-            }
-            case 19: {
-                int dividend = from(0, 999);
-                x.dividend(from(0, 4), dividend);
-                money += dividend;
-                break;
-            }
+                return x.buyOut(from(0, 3), from(-1, 6), from(-1, 6), from(1, 50));
+            case 17:
+                return share(from(0, 900), from(0, 300), from(0, 50));
+            case 18:
+                return invest(from(0, 31));
+            case 19:
+                return dividend(from(0, 4), from(0, 999));
             default:
-                x.ruin(from(0, 60));
+                return x.ruin(from(0, 60));
         }
     }
 
-    private void result(int venture, int result, int careless) {
-        long before = venture >= 0 && venture < x.house(10) ? capitals(venture) : 0;
-        x.result(venture, result, careless);
-        boolean isBorneByCapital = result < 0 && careless == -2;
-        money += isBorneByCapital ? Math.max(result, -before) : result;
+    private long person(int cash) {
+        int person = x.person(cash);
+        money += cash;
+        return person;
     }
 
-    private void ask(int kind) {
+    // What the MARKET is paid goes to nobody.
+    private long buy(int thing) {
+        boolean isOfMarket = x.ofThing(thing, 1) == 9;
+        int paid = x.buy(thing);
+        money -= isOfMarket ? paid : 0;
+        return paid;
+    }
+
+    private long join(int venture, int person, int amount, int share) {
+        int shares = x.join(venture, person, amount, share);
+        capital[venture] += amount;
+        return shares;
+    }
+
+    private long result(int venture, int result, int careless) {
+        int left = x.result(venture, result, careless);
+        boolean isBorneByCapital = result < 0 && careless == -2;
+        long due = isBorneByCapital ? Math.max(capital[venture] + result, 0) : capital[venture];
+        Check.is("CAPITAL of all", left, due);
+        money += isBorneByCapital ? due - capital[venture] : result;
+        capital[venture] = due;
+        return left;
+    }
+
+    private long share(int profit, int target, int management) {
+        int shared = x.share(profit, target, management);
+        money += profit;
+        return shared;
+    }
+
+    // PRICES are paid to nobody.
+    private long invest(int firms) {
+        int before = x.house(1);
+        int cash = x.invest(firms);
+        money += cash - before;
+        return cash;
+    }
+
+    private long dividend(int firm, int dividend) {
+        int given = x.dividend(firm, dividend);
+        money += dividend;
+        return given;
+    }
+
+    private long ask(int kind) {
         switch (kind) {
             case 21:
-                x.ofPerson(from(0, 7), from(0, 7));
-                break;
+                return x.ofPerson(from(0, 7), from(0, 7));
             case 22:
-                x.ofThing(from(0, 15), from(0, 6));
-                break;
+                return x.ofThing(from(0, 15), from(0, 6));
             case 23:
-                x.ofSale(from(0, 11), from(0, 9));
-                break;
+                return x.ofSale(from(0, 11), from(0, 9));
             case 24:
-                x.ofLease(from(0, 7), from(0, 5));
-                break;
+                return x.ofLease(from(0, 7), from(0, 5));
             case 25:
-                x.ofVenture(from(0, 5), from(-1, 7), from(0, 2));
-                break;
+                return x.ofVenture(from(0, 5), from(-1, 7), from(0, 2));
             case 26:
-                x.ofFirm(from(0, 9), from(0, 4));
-                break;
+                return x.ofFirm(from(0, 9), from(0, 4));
             case 27:
-                x.allowed(from(0, 4), from(0, 4000));
-                break;
+                return x.allowed(from(0, 4), from(0, 400)) ? 1 : 0;
             case 28:
-                x.house(from(0, 15));
-                break;
+                return x.house(from(0, 15));
             case 29:
-                x.tell(from(0, 11));
-                break;
+                return x.tell(from(0, 11)).hashCode();
             case 30:
-                x.pillars(from(0, 15), from(0, 7));
-                break;
+                return x.pillars(from(0, 15), from(0, 7));
             case 31:
-                x.best(from(0, 999), below(2) == 0);
-                break;
+                return x.best(from(0, 999), below(2) == 0);
+            case 32:
+                return x.wouldShare(from(0, 9999), from(0, 7));
+            case 33:
+                return x.isSound() ? 1 : 0;
             default:
-                x.wouldShare(from(0, 9999), from(0, 7));
+                return x.digest();
         }
     }
 }
